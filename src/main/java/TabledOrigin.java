@@ -647,7 +647,6 @@ public final class TabledOrigin {
             }
             write(target, asked.content, asked.lifetime);
             Answer answer = new Answer(STATUS_OK);
-            answer.tag = target.tag;
             table.putDown(answer, TAG_FIELD, target.tag);
             return answer;
         }
