@@ -17,6 +17,7 @@ public final class Promise03DropTest {
             check.due("drop of " + resource, x.drop(resource), false);
         }
         aWrittenOneCanBeDropped(check);
+        aDropChangesTheServerAlone(check);
         aTagDoesNotOutliveItsResource(check);
         check.finish();
     }
@@ -27,6 +28,16 @@ public final class Promise03DropTest {
         check.due("not yet written", x.drop(3), false);
         x.arrive(put);
         check.due("written", x.drop(3), true);
+    }
+
+    private static void aDropChangesTheServerAlone(Check check) {
+        TabledOrigin x = new TabledOrigin();
+        x.put(0, 1, 9);
+        Steps.fetch(x, 0);
+        check.due("drop", x.drop(0), true);
+        check.due("stored still", x.stored(0, 1), 1);
+        check.due("cached still", x.outcome(x.get(0)), Steps.CACHED);
+        check.due("entries are live still", x.entry(2, 1), 1);
     }
 
     private static void aTagDoesNotOutliveItsResource(Check check) {

@@ -5,6 +5,9 @@ public final class Promise06ArriveTest {
         arrivesOnce(check);
         anyOrder(check);
         thrownAwayBehindTheLimit(check);
+        allAreThrownAwayBehindLimitZero(check);
+        thrownAwayStaysPendingUntilTheNotice(check);
+        noneInEachOutcome(check);
         fieldsBecomeEntries(check);
         sameFieldsAreReferences(check);
         literalsWhenRiskIsNotAllowed(check);
@@ -66,6 +69,35 @@ public final class Promise06ArriveTest {
         check.due("pending", x.outcome(2), Steps.PENDING);
         check.due("under way no more", x.arrive(2), Steps.NONE);
         check.due("no answer", x.reply(2), Steps.NONE);
+    }
+
+    private static void allAreThrownAwayBehindLimitZero(Check check) {
+        TabledOrigin x = new TabledOrigin();
+        x.put(0, 1, 0);
+        x.get(0);
+        check.due("limit", x.goaway(), 0);
+        check.due("request 0 is not less", x.arrive(0), 0);
+        check.due("a later one too", x.arrive(x.get(0)), 0);
+        check.due("no fields", x.count(Steps.MADE) + x.count(Steps.LITERALS), 0);
+    }
+
+    private static void thrownAwayStaysPendingUntilTheNotice(Check check) {
+        TabledOrigin x = new TabledOrigin();
+        x.get(0);
+        x.goaway();
+        x.arrive(0);
+        x.tick(1000);
+        check.due("no answer comes", x.reply(0), Steps.NONE);
+        check.due("pending", x.outcome(0), Steps.PENDING);
+        x.notice();
+        check.due("refused", x.outcome(0), Steps.REFUSED);
+    }
+
+    private static void noneInEachOutcome(Check check) {
+        TabledOrigin x = Steps.allOutcomes();
+        for (int request = 0; request < 10; request++) {
+            check.due("arrive of " + request, x.arrive(request), Steps.NONE);
+        }
     }
 
     private static void fieldsBecomeEntries(Check check) {

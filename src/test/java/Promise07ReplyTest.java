@@ -12,6 +12,8 @@ public final class Promise07ReplyTest {
         writtenForgets(check);
         failedForgetsNothing(check);
         acknowledgesWhatItNeeded(check);
+        noneInEachOutcome(check);
+        noneWithoutAnAnswer(check);
         wrongInputs(check);
         check.finish();
     }
@@ -186,6 +188,31 @@ public final class Promise07ReplyTest {
         check.due("ACK", x.feedback(), Steps.ACK);
         check.due("known", x.count(Steps.KNOWN), 3);
         check.due("one ACK", x.feedback(), Steps.NONE);
+    }
+
+    private static void noneInEachOutcome(Check check) {
+        TabledOrigin x = Steps.allOutcomes();
+        for (int request = 0; request < 10; request++) {
+            boolean underWay = request == 7;
+            check.due("reply to " + request, x.reply(request), underWay ? Steps.ABSENT : Steps.NONE);
+        }
+        check.due("it has come already", x.reply(7), Steps.NONE);
+    }
+
+    private static void noneWithoutAnAnswer(Check check) {
+        TabledOrigin x = new TabledOrigin();
+        x.put(0, 1, 0);
+        x.get(0);
+        check.due("the request is under way", x.reply(0), Steps.NONE);
+        x.arrive(0);
+        check.due("blocked", x.reply(0), Steps.PENDING);
+        check.due("blocked already", x.reply(0), Steps.NONE);
+        Steps.takeInstructions(x);
+        check.due("read already", x.reply(0), Steps.NONE);
+        x.get(0);
+        x.goaway();
+        x.arrive(1);
+        check.due("thrown away", x.reply(1), Steps.NONE);
     }
 
     private static void wrongInputs(Check check) {

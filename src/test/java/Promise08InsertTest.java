@@ -3,6 +3,8 @@ public final class Promise08InsertTest {
         Check check = new Check();
         oneByOne(check);
         severalAtOnce(check);
+        onlyThoseThatNeedNoMore(check);
+        noneWhenNoneIsUnderWay(check);
         inTheOrderOfTheRequests(check);
         cancelledOnesAreNotRead(check);
         check.finish();
@@ -41,6 +43,29 @@ public final class Promise08InsertTest {
         check.due("none blocked", x.count(Steps.BLOCKED), 0);
         check.due("one ACK", x.feedback(), Steps.ACK);
         check.due("another ACK", x.feedback(), Steps.ACK);
+    }
+
+    private static void onlyThoseThatNeedNoMore(Check check) {
+        TabledOrigin x = Steps.twoAtRisk();
+        x.reply(0);
+        x.reply(1);
+        int[] due = {0, 0, 1, 0, 1, Steps.NONE};
+        for (int read : due) {
+            check.due("insert", x.insert(), read);
+        }
+        check.due("both are read", x.outcome(0) + x.outcome(1), 2 * Steps.FOUND);
+    }
+
+    private static void noneWhenNoneIsUnderWay(Check check) {
+        TabledOrigin x = new TabledOrigin();
+        check.due("no entry was made", x.insert(), Steps.NONE);
+        x.arrive(x.get(0));
+        check.due("a 404 makes none", x.insert(), Steps.NONE);
+        x.arrive(x.replace(0, 1, 1));
+        x.cancel(1);
+        check.due("a cancelled answer's entry is told all the same", x.insert(), 0);
+        check.due("all have come", x.insert(), Steps.NONE);
+        check.due("come", x.count(Steps.COME), 1);
     }
 
     // Request 1 is a PUT, so what request 0 stores is forgotten only if 0 is read first.

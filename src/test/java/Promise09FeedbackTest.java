@@ -6,6 +6,7 @@ public final class Promise09FeedbackTest {
         ackNeverLowersKnown(check);
         cancelLeavesKnown(check);
         moreAdds(check);
+        noneWhenNoneIsUnderWay(check);
         check.finish();
     }
 
@@ -60,6 +61,18 @@ public final class Promise09FeedbackTest {
         check.due("one reference to (1,10) is left", x.entry(3, 2), 1);
         x.cancel(x.get(5));
         check.due("CANCEL of one without an answer", x.feedback(), Steps.CANCEL);
+        check.due("outstanding", x.count(Steps.OUTSTANDING), 1);
+    }
+
+    private static void noneWhenNoneIsUnderWay(Check check) {
+        TabledOrigin x = Steps.twoAtRisk();
+        x.reply(0);
+        x.insert();
+        check.due("nothing was put", x.feedback(), Steps.NONE);
+        x.cancel(0);
+        check.due("CANCEL", x.feedback(), Steps.CANCEL);
+        check.due("it has come", x.feedback(), Steps.NONE);
+        check.due("known", x.count(Steps.KNOWN), 0);
         check.due("outstanding", x.count(Steps.OUTSTANDING), 1);
     }
 

@@ -15,6 +15,7 @@ public final class Promise10ReportTest {
         check.due("one MORE", x.feedback(), Steps.NONE);
         anAckTellsToo(check);
         onlyTheDifferenceIsReported(check);
+        oneMoreIsEnough(check);
         check.finish();
     }
 
@@ -23,6 +24,21 @@ public final class Promise10ReportTest {
         Steps.takeInstructions(x);
         x.reply(1);
         check.due("the ACK told all", x.report(), false);
+    }
+
+    private static void oneMoreIsEnough(Check check) {
+        TabledOrigin x = Steps.twoAtRisk();
+        for (int come = 1; come <= 5; come++) {
+            x.insert();
+            check.due("one untold", x.report(), true);
+            check.due("none untold", x.report(), false);
+            check.due("told", x.count(Steps.TOLD), come);
+        }
+        for (int known = 1; known <= 5; known++) {
+            check.due("MORE", x.feedback(), Steps.MORE);
+            check.due("known", x.count(Steps.KNOWN), known);
+        }
+        check.due("nothing else was put", x.feedback(), Steps.NONE);
     }
 
     private static void onlyTheDifferenceIsReported(Check check) {

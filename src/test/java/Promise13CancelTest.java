@@ -6,6 +6,7 @@ public final class Promise13CancelTest {
         blockedAnswer(check);
         thrownAway(check);
         onlyPendingOnes(check);
+        falseInEachOtherOutcome(check);
         check.finish();
     }
 
@@ -56,6 +57,16 @@ public final class Promise13CancelTest {
         check.due("it is PENDING still", x.cancel(0), true);
         check.due("the notice refuses it no more", x.notice(), 0);
         check.due("cancelled", x.outcome(0), Steps.CANCELLED);
+    }
+
+    private static void falseInEachOtherOutcome(Check check) {
+        TabledOrigin x = Steps.allOutcomes();
+        for (int request = 0; request < 10; request++) {
+            check.due("cancel of " + request, x.cancel(request), request == 7);
+        }
+        check.due("again", x.cancel(7), false);
+        check.due("one CANCEL", x.feedback(), Steps.CANCEL);
+        check.due("no more", x.feedback(), Steps.NONE);
     }
 
     private static void onlyPendingOnes(Check check) {

@@ -32,6 +32,17 @@ public final class Promise15OutcomeTest {
         for (int request : wrong) {
             check.due("outcome of " + request, x.outcome(request), Steps.NONE);
         }
+        noneWhenThereIsNone(check);
         check.finish();
+    }
+
+    private static void noneWhenThereIsNone(Check check) {
+        TabledOrigin x = new TabledOrigin();
+        for (int made = 0; made < 60; made++) {
+            check.due("outcome of the next", x.outcome(made), Steps.NONE);
+            x.get(0);
+            check.due("outcome of the newest", x.outcome(made), Steps.PENDING);
+        }
+        check.due("outcome of 60", x.outcome(60), Steps.NONE);
     }
 }

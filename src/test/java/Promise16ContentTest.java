@@ -34,6 +34,31 @@ public final class Promise16ContentTest {
         for (int request : wrong) {
             check.due("content of " + request, x.content(request), Steps.NONE);
         }
+        noneWhenThereIsNone(check);
+        zeroUntilItIsRead(check);
         check.finish();
+    }
+
+    private static void noneWhenThereIsNone(Check check) {
+        TabledOrigin x = new TabledOrigin();
+        for (int made = 0; made < 60; made++) {
+            check.due("content of the next", x.content(made), Steps.NONE);
+            x.replace(0, 5, 5);
+            check.due("content of the newest", x.content(made), 0);
+        }
+        check.due("content of 60", x.content(60), Steps.NONE);
+    }
+
+    private static void zeroUntilItIsRead(Check check) {
+        TabledOrigin x = new TabledOrigin();
+        x.put(0, 5, 5);
+        x.get(0);
+        check.due("under way", x.content(0), 0);
+        x.arrive(0);
+        check.due("answered", x.content(0), 0);
+        x.reply(0);
+        check.due("blocked", x.content(0), 0);
+        Steps.takeInstructions(x);
+        check.due("read", x.content(0), 5);
     }
 }

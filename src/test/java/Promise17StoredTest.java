@@ -33,6 +33,28 @@ public final class Promise17StoredTest {
         for (int which = 0; which <= 3; which++) {
             check.due("stored no more " + which, x.stored(2, which), Steps.NONE);
         }
+        eachResourceHasItsOwn(check);
         check.finish();
+    }
+
+    private static void eachResourceHasItsOwn(Check check) {
+        TabledOrigin x = new TabledOrigin();
+        for (int resource = 0; resource < 6; resource++) {
+            x.put(resource, 10 * resource, resource);
+            check.due("nothing stored yet", x.stored(resource, 0), Steps.NONE);
+            check.due("request", Steps.fetch(x, resource), resource);
+        }
+        for (int resource = 0; resource < 6; resource++) {
+            check.due("tag", x.stored(resource, 0), resource + 1);
+            check.due("content", x.stored(resource, 1), 10 * resource);
+            check.due("request", x.stored(resource, 2), resource);
+            check.due("fresh for", x.stored(resource, 3), resource);
+            check.due("which -1", x.stored(resource, -1), Steps.NONE);
+            check.due("which 4", x.stored(resource, 4), Steps.NONE);
+        }
+        for (int which = -1; which <= 4; which++) {
+            check.due("resource -1", x.stored(-1, which), Steps.NONE);
+            check.due("resource 6", x.stored(6, which), Steps.NONE);
+        }
     }
 }

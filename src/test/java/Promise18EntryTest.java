@@ -4,6 +4,7 @@ public final class Promise18EntryTest {
         countedFromTheNewest(check);
         referencesOfOutstandingAnswers(check);
         fiveAtMost(check);
+        noneBehindTheLiveOnes(check);
         wrongInputs(check);
         check.finish();
     }
@@ -45,6 +46,22 @@ public final class Promise18EntryTest {
         }
         for (int k = 0; k < 5; k++) {
             check.due("value " + k, x.entry(k, 1), 14 - k);
+        }
+    }
+
+    private static void noneBehindTheLiveOnes(Check check) {
+        TabledOrigin x = new TabledOrigin();
+        for (int made = 0; made <= 7; made++) {
+            int live = Math.min(made, 5);
+            for (int which = 0; which <= 2; which++) {
+                check.due("the first behind " + live, x.entry(live, which), Steps.NONE);
+            }
+            if (live > 0) {
+                check.due("the last of " + live, x.entry(live - 1, 0), 0);
+                check.due("which 3", x.entry(live - 1, 3), Steps.NONE);
+                check.due("which -1", x.entry(live - 1, -1), Steps.NONE);
+            }
+            Steps.write(x, 0, 0, 0);
         }
     }
 

@@ -26,6 +26,11 @@ final class Steps {
     static final int AT_RISK = 7;
     static final int BLOCKED = 8;
 
+    /** The outcomes of requests 0 .. 8 of allOutcomes(). */
+    static final int[] OUTCOMES = {
+        ABSENT, FOUND, CACHED, STILL_GOOD, FAILED, WRITTEN, CANCELLED, PENDING, REFUSED
+    };
+
     static final int[] WRONG_RESOURCES = {-1, 6, 7, Integer.MIN_VALUE, Integer.MAX_VALUE};
     static final int[] WRONG_LIFETIMES = {-1, 1001, Integer.MIN_VALUE, Integer.MAX_VALUE};
 
@@ -77,6 +82,30 @@ final class Steps {
         x.put(1, 200, 10);
         x.arrive(x.get(0));
         x.arrive(x.get(1));
+        return x;
+    }
+
+    /**
+     * Each outcome once, as OUTCOMES says. The notice is taken; all instructions and all feedback
+     * have come; the answer to the PENDING request 7 (404) is under way to the client.
+     */
+    static TabledOrigin allOutcomes() {
+        TabledOrigin x = new TabledOrigin();
+        fetch(x, 0);
+        x.put(0, 11, 5);
+        fetch(x, 0);
+        x.get(0);
+        x.tick(5);
+        fetch(x, 0);
+        x.put(0, 22, 5);
+        write(x, 0, 33, 5);
+        write(x, 1, 44, 5);
+        x.cancel(x.get(2));
+        takeFeedback(x);
+        x.arrive(x.get(2));
+        x.get(3);
+        x.goaway();
+        x.notice();
         return x;
     }
 }
