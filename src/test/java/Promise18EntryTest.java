@@ -25,8 +25,9 @@ public final class Promise18EntryTest {
         for (int k = 0; k < due.length; k++) {
             check.due("references " + k, x.entry(k, 2), due[k]);
         }
-        Steps.takeInstructions(x);
         x.reply(0);
+        check.due("blocked", x.entry(3, 2), 2);
+        Steps.takeInstructions(x);
         check.due("read, but not acknowledged at the server", x.entry(3, 2), 2);
         x.feedback();
         check.due("acknowledged", x.entry(3, 2), 1);

@@ -10,6 +10,7 @@ public final class TermsReadingTest {
         foundReplacesAnOlderRequest(check);
         foundLeavesANewerRequest(check);
         foundIsStoredAgainBehindANewerAbsence(check);
+        foundIsStoredWhenANewerOneIsForgotten(check);
         stillGoodRenewsAnOlderRequest(check);
         stillGoodTakesSinceFromItsSending(check);
         stillGoodLeavesANewerRequest(check);
@@ -157,6 +158,21 @@ public final class TermsReadingTest {
         nothingStored(check, x);
         check.due("found", x.reply(older), Steps.FOUND);
         stored(check, x, 2, 5, older, 20);
+    }
+
+    private static void foundIsStoredWhenANewerOneIsForgotten(Check check) {
+        TabledOrigin x = new TabledOrigin();
+        x.put(0, 4, 10);
+        int older = x.get(0);
+        x.arrive(older);
+        int newer = Steps.fetch(x, 0);
+        stored(check, x, 1, 4, newer, 10);
+        x.drop(0);
+        x.tick(10);
+        Steps.fetch(x, 0);
+        nothingStored(check, x);
+        check.due("found", x.reply(older), Steps.FOUND);
+        stored(check, x, 1, 4, older, 0);
     }
 
     // "if an answer is stored whose tag is that of the answer and whose request is less than q, its lifetime
