@@ -54,20 +54,35 @@ public final class LanguageTest {
         return found;
     }
 
-    private static void hiddenMembers(Check check) {
-        Set<String> publicNames = new TreeSet<>();
+    private static Set<String> publicNames() {
+        Set<String> names = new TreeSet<>();
         for (String line : FACE) {
-            publicNames.add(line.substring(line.indexOf(' ') + 1, line.indexOf('(')));
+            names.add(line.substring(line.indexOf(' ') + 1, line.indexOf('(')));
         }
+        return names;
+    }
+
+    private static void hiddenMembers(Check check) {
         for (Method method : TabledOrigin.class.getDeclaredMethods()) {
+            check.due(method + " has few parameters", method.getParameterCount() <= 7, true);
             if (!Modifier.isPublic(method.getModifiers())) {
                 check.due(method + " is private", Modifier.isPrivate(method.getModifiers()), true);
-                check.due(method + " bears a public name", publicNames.contains(method.getName()), false);
+                check.due(method + " bears a public name", publicNames().contains(method.getName()), false);
             }
         }
         for (Field field : TabledOrigin.class.getDeclaredFields()) {
             boolean hidden = Modifier.isPrivate(field.getModifiers()) || field.getName().equals("NONE");
             check.due(field + " is private", hidden, true);
+        }
+        staticFieldsAreConstants(check, TabledOrigin.class);
+    }
+
+    private static void staticFieldsAreConstants(Check check, Class<?> one) {
+        for (Field field : one.getDeclaredFields()) {
+            if (Modifier.isStatic(field.getModifiers())) {
+                check.due(field + " is final", Modifier.isFinal(field.getModifiers()), true);
+                check.due(field + " is an int", field.getType() == int.class, true);
+            }
         }
     }
 
@@ -78,6 +93,11 @@ public final class LanguageTest {
             check.due(one + " is static", Modifier.isStatic(one.getModifiers()), true);
             check.due(one + " is not public", Modifier.isPublic(one.getModifiers()), false);
             check.due(one + " has few fields", one.getDeclaredFields().length <= 20, true);
+            staticFieldsAreConstants(check, one);
+            for (Method method : one.getDeclaredMethods()) {
+                check.due(method + " bears a public name", publicNames().contains(method.getName()), false);
+                check.due(method + " has few parameters", method.getParameterCount() <= 7, true);
+            }
         }
     }
 

@@ -6,6 +6,7 @@ public final class LongRunTest {
         mostFeedback(check);
         mostTags(check);
         longestTime(check);
+        laterCallsEnd();
         check.finish();
     }
 
@@ -87,5 +88,28 @@ public final class LongRunTest {
         check.due("fresh for", x.stored(0, 3), 1000);
         check.due("tick", x.tick(999), true);
         check.due("fresh still", x.outcome(x.get(0)), Steps.CACHED);
+    }
+
+    // "what later calls answer is free", but LANGUAGE.md lets no call throw or fail to end in any state.
+    private static void laterCallsEnd() {
+        for (int seed = 0; seed < 20; seed++) {
+            RandomCalls calls = new RandomCalls(seed);
+            TabledOrigin x = new TabledOrigin();
+            for (int i = 0; i < 20000; i++) {
+                Call call = calls.next();
+                int answer = call.on(x);
+                if (call.name().equals("get") || call.name().equals("replace")) {
+                    calls.madeRequest(answer);
+                }
+            }
+        }
+        TabledOrigin late = new TabledOrigin();
+        late.put(0, 4, 1000);
+        Steps.fetch(late, 0);
+        for (int i = 0; i < 3000000; i++) {
+            late.tick(1000);
+        }
+        Steps.fetch(late, 0);
+        late.stored(0, 3);
     }
 }
